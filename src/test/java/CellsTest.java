@@ -106,7 +106,10 @@ public final class CellsTest {
         due.is("fire(1, 9999)", x.fire(1, 9999), 0);
         due.is("fire(1, 3)", x.fire(1, 3), 9999);
         due.is("fire(2, 99999)", x.fire(2, 99999), 0);
-        due.is("fire(2, 8)", x.fire(2, 8), 99999);
+        due.is("fire(2, 0)", x.fire(2, 0), 99999);
+        due.is("fire(1, 0)", x.fire(1, 0), 3);
+        due.is("fire(1, 3) again", x.fire(1, 3), 0);
+        due.is("fire(2, 8)", x.fire(2, 8), 0);
         int[][] wrong = {{0, 100}, {0, -1}, {1, 10000}, {1, -1}, {2, 100000}, {2, -1}, {3, 0}, {-1, 0}};
         for (int[] w : wrong) {
             due.is("fire(" + w[0] + ", " + w[1] + ")", x.fire(w[0], w[1]), Due.BEYOND);

@@ -122,6 +122,15 @@ public final class HoursTest {
         due.is("r 1 and h 5", x.ofCell(4, 0), 700 + 6 - 16);
         due.is("r 2 and h 5", x.ofCell(8, 0), 500 + 16 - 26);
         due.is("cell 12 less a fourth", x.ofCell(12, 0), 26 - 6);
+        x = new OvenRings();
+        x.fire(0, 0);
+        Due.text(x, 1, "h");
+        for (int hour = 0; hour < 26; hour++) {
+            x.heat(3, 900);
+            x.heat(7, 0);
+            x.hours(1);
+            due.is("h in HOUR " + hour, x.ofCell(3, 0), 900 - (hour < 24 ? hour : hour - 24));
+        }
     }
 
     private static void houses() {
@@ -193,6 +202,9 @@ public final class HoursTest {
         }
         x.hours(38);
         due.is("HOUR 9998", x.count(1), 9998);
+        x.image();
+        due.is("loose(1) to 9999", x.loose(1), x.count(5));
+        x.restore();
         int burnt = x.count(4);
         due.is("hours: STATE", x.hours(2), Due.STATE);
         due.is("loose: STATE", x.loose(2), Due.STATE);

@@ -39,6 +39,19 @@ public final class TellsTest {
         due.is("image() a third time", x.image(), 3);
         x.hours(2);
         due.is("restore() to the later one", x.restore(), 16);
+        x.check();
+        x.text(0);
+        x.image();
+        x.tell(1);
+        Due.tape(x, "1");
+        x.restore();
+        due.is("nothing on THE TAPE", x.count(7), 0);
+        due.is("nothing that waits", x.count(8), 0);
+        x = new OvenRings();
+        x.image();
+        Due.text(x, 0, "1");
+        x.restore();
+        due.is("no TEXT", x.law(0, 0, 0, 0), 20);
     }
 
     private static void spoil(OvenRings x) {

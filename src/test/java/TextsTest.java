@@ -96,6 +96,8 @@ public final class TextsTest {
         due.is("text that ends with (", Due.text(x, 0, "10" + "+1".repeat(23) + "+("), -60);
         due.is("text of 50 in (", Due.text(x, 0, "f*" + "(".repeat(5) + "1" + "+1".repeat(18) + ")".repeat(5)), 1);
         due.is("law of that", x.law(0, 2, 0, 0), 38);
+        due.is("text of one byte in its place", Due.text(x, 0, "h"), 1);
+        due.is("law of the one byte", x.law(0, 2, 7, 0), 7);
         x = new OvenRings();
         due.is("text: right signs lean right", Due.text(x, 0, "1-(1-(1-(1-(1-(1)))))"), 1);
         due.is("law of those", x.law(0, 0, 0, 0), 0);

@@ -91,6 +91,10 @@ public final class WouldBeTest {
         due.is("feedFor(2, 1): with 99", x.feedFor(2, 1), 99);
         due.is("feedFor(3, 1): both", x.feedFor(3, 1), 99);
         due.is("feedFor(0, 30): none told", x.feedFor(0, 30), 0);
+        x.heat(1, 299);
+        due.is("feedFor(2, 2): in the second HOUR", x.feedFor(2, 2), 0);
+        x.heat(0, 41);
+        due.is("feedFor(1, 2): not in the first alone", x.feedFor(1, 2), 2);
         x.heat(1, 301);
         due.is("feedFor(2, 1): too hot", x.feedFor(2, 1), Due.NONE);
         x.heat(1, 100);
@@ -141,6 +145,9 @@ public final class WouldBeTest {
         due.is("doors(0, 32, 2): two", x.doors(0, 32, 2), 17);
         due.is("doors(0, 33, 2): not by two", x.doors(0, 33, 2), Due.NONE);
         due.is("doors(0, 1, 0): nothing goes in no time", x.doors(0, 1, 0), Due.NONE);
+        x.door(4, 1);
+        due.is("doors(0, 32, 2): one, door 0", x.doors(0, 32, 2), 1);
+        x.door(4, 0);
         x.door(0, 1);
         due.is("doors(0, 32, 2): one", x.doors(0, 32, 2), 16);
         x.door(4, 1);
@@ -176,6 +183,9 @@ public final class WouldBeTest {
         x.put(2, 4, 33);
         due.is("which: all but 0", x.which(2, 0), 4094);
         due.is("which: how many of them", x.which(2, 1), 11);
+        x.put(2, 0, 66);
+        due.is("which: cell 0 is told, too", x.which(2, 0), 0);
+        x.put(2, 0, 67);
         x.put(2, 15, 1);
         due.is("which: none", x.which(2, 0), 0);
         due.is("which: how many, none", x.which(2, 1), 0);
@@ -206,6 +216,10 @@ public final class WouldBeTest {
         x.heat(9, 100);
         due.is("settle(0, 3, 0): of two the least", x.settle(0, 3, 0), 5);
         due.is("settle(0, 3, 1)", x.settle(0, 3, 1), 10);
+        x.heat(3, 22);
+        due.is("settle(0, 3, 0): from now on", x.settle(0, 3, 0), 5);
+        due.is("settle(0, 3, 1): three and no more", x.settle(0, 3, 1), 10);
+        x.heat(3, 0);
         x.heat(5, 21);
         due.is("settle(0, 3, 0): the most", x.settle(0, 3, 0), 9);
         due.is("settle(0, 0, 0)", x.settle(0, 0, 0), 0);
@@ -254,6 +268,12 @@ public final class WouldBeTest {
         x.heat(7, 3);
         x.heat(9, 3);
         due.is("cold: of two the least", x.cold(0, 0), 7);
+        x.image();
+        x.door(0, 1);
+        x.heat(4, 0);
+        due.is("cold(1, 1): what came by a DOOR", x.cold(1, 1), 3);
+        due.is("cold(1, 0)", x.cold(1, 0), 7);
+        x.restore();
         due.is("cold(60, 1)", x.cold(60, 1), 3);
         due.is("cold(60, 0)", x.cold(60, 0), 7);
         int[][] wrong = {{-1, 0}, {61, 0}, {0, -1}, {0, 2}, {MAX, 0}, {MIN, 1}};
@@ -318,6 +338,12 @@ public final class WouldBeTest {
         due.is("glad(1)", x.glad(1), 2);
         due.is("glad(5): five, and two of 43, 41", x.glad(5), 7);
         due.is("glad(60): of LEAST 20", x.glad(60), 62);
+        x.door(0, 1);
+        x.heat(0, 90);
+        x.change(2, 0, 4);
+        due.is("glad(1): 30 came by a DOOR", x.glad(1), 3);
+        x.door(0, 0);
+        due.is("glad(1): by a brick none", x.glad(1), 2);
         x.change(0, 1, 9998);
         due.is("glad: WARM is held", x.glad(5), 3);
         int[] wrong = {-1, 61, MIN, MAX};
