@@ -750,7 +750,7 @@ public final class OvenRings {
             for (int i = 0; i < houses && i < HOUSES; i++) {
                 int c = cell[i];
                 if (c >= 0 && c < CELLS) {
-                    heat[c] -= Math.min(takesOf(i), heat[c]);
+                    heat[c] -= takesOf(i);
                 }
                 if (isContent(i)) {
                     content |= 1 << i;
@@ -853,8 +853,12 @@ public final class OvenRings {
             return Kinds.most(kindOf(house));
         }
 
+        /** What it would take of HEAT as it is: no more than there is. */
         int takesOf(int house) {
-            return Kinds.takes(kindOf(house), hour);
+            if (house < 0 || house >= HOUSES) {
+                return 0;
+            }
+            return Math.min(Kinds.takes(kindOf(house), hour), heatOf(cell[house]));
         }
 
         boolean isContent(int house) {

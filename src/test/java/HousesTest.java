@@ -6,6 +6,8 @@ public final class HousesTest {
         promise7();
         promise8();
         promise8ByHour();
+        promise8TakesNoMoreThanThereIs();
+        promise8TakesInOneCell();
         promise8Content();
         promise9();
         promise10();
@@ -39,6 +41,7 @@ public final class HousesTest {
         x.hours(1);
         for (int kind = 0; kind < 7; kind++) {
             x.house(kind * 10 + 4, kind + 5);
+            x.heat(kind + 5, 500);
             due.is("KIND of " + kind, x.ofHouse(kind, 0), kind);
             due.is("m of " + kind, x.ofHouse(kind, 1), 4);
             due.is("CELL of " + kind, x.ofHouse(kind, 2), kind + 5);
@@ -63,12 +66,46 @@ public final class HousesTest {
         int[] ofWidow = {30, 40, 40, 30, 40, 40, 30};
         int[] ofChurch = {1, 2, 3, 4, 5, 1, 2};
         for (int hour = 0; hour < 7; hour++) {
+            x.heat(15, 500);
             due.is("LEAST of a WIDOW in HOUR " + hour, x.ofHouse(0, 4), ofWidow[hour]);
             due.is("LEAST of a LODGER in HOUR " + hour, x.ofHouse(1, 4), ofWidow[hour] + 7);
             due.is("LEAST of a CHURCH in HOUR " + hour, x.ofHouse(2, 4), 11);
             due.is("TAKES of a CHURCH in HOUR " + hour, x.ofHouse(2, 6), ofChurch[hour]);
             x.hours(1);
         }
+    }
+
+    private static void promise8TakesNoMoreThanThereIs() {
+        // TAKES in HOUR 4, in which a CHURCH would take 5
+        int[] most = {2, 6, 1, 2, 0, 5, 2};
+        for (int kind = 0; kind < most.length; kind++) {
+            OvenRings x = new OvenRings();
+            x.hours(4);
+            x.house(kind * 10 + 9, 15);
+            for (int v = 0; v <= 8; v++) {
+                x.heat(15, v);
+                due.is("TAKES of " + kind + " with " + v, x.ofHouse(0, 6), Math.min(v, most[kind]));
+            }
+        }
+    }
+
+    private static void promise8TakesInOneCell() {
+        OvenRings x = new OvenRings();
+        for (int house = 0; house < 5; house++) {
+            due.is("house(0, 0)", x.house(0, 0), house);
+        }
+        for (int v = 0; v <= 3; v++) {
+            x.heat(0, v);
+            for (int house = 0; house < 5; house++) {
+                due.is("TAKES of each by HEAT " + v + " as it is", x.ofHouse(house, 6), Math.min(v, 2));
+            }
+        }
+        x.heat(0, 0);
+        x.heat(1, 9);
+        due.is("another CELL is not told", x.ofHouse(0, 6), 0);
+        x.change(0, 0, 1);
+        due.is("its CELL is", x.ofHouse(0, 6), 2);
+        due.is("asking takes nothing", x.ofCell(1, 0), 9);
     }
 
     private static void promise8Content() {

@@ -168,7 +168,7 @@ final class Model {
             }
         }
         for (House h : houses) {
-            heat[h.cell] = Math.max(0, heat[h.cell] - h.takes(hour));
+            heat[h.cell] = heat[h.cell] - taken(h);
             h.content = isContent(h);
             h.warm = hold(h.warm + (h.content ? 1 : 0), 0, 9999);
         }
@@ -176,6 +176,10 @@ final class Model {
             heat[c] = heat[c] - heat[c] / 4;
         }
         hour++;
+    }
+
+    private int taken(House h) {
+        return h.takes(hour) > heat[h.cell] ? heat[h.cell] : h.takes(hour);
     }
 
     private boolean isContent(House h) {
@@ -438,7 +442,7 @@ final class Model {
         switch (name) {
             case "ofHouse":
                 in(q, 0, 7);
-                int[] all = {h.kind(), h.m, h.cell, h.warm, h.least(hour), h.most(), h.takes(hour), isContent(h) ? 1 : 0};
+                int[] all = {h.kind(), h.m, h.cell, h.warm, h.least(hour), h.most(), taken(h), isContent(h) ? 1 : 0};
                 return all[q];
             case "change":
                 in(q, 0, 1);
