@@ -23,7 +23,16 @@ final class Call {
         return methods.keySet().toArray(new String[0]);
     }
 
-    /** Answers what the call answers; numbers are cut to ints where an int is taken. */
+    /** The numbers as the call takes them: cut to ints, but for a long. */
+    static long[] taken(String name, long... a) {
+        long[] taken = a.clone();
+        for (int i = 0; i < a.length; i++) {
+            taken[i] = methods.get(name).getParameterTypes()[i] == long.class ? a[i] : (int) a[i];
+        }
+        return taken;
+    }
+
+    /** Answers what the call answers. */
     static int of(OvenRings x, String name, long... a) {
         Method m = methods.get(name);
         Object[] given = new Object[a.length];

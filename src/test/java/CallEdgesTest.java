@@ -147,7 +147,8 @@ public final class CallEdgesTest {
     }
 
     private static void drawsOfDoors() {
-        due.of(T, "another draw: if 4 divides it, the DOOR that is the rest by 12 of an eighth of it (cut) is changed; then an HOUR.");
+        due.of(T, "another draw: if 4 divides it, the DOOR that is the rest by 12 of an eighth of it (cut) is changed; then an "
+            + "HOUR.");
         int changed = 0;
         int rests = 0;
         for (int seed = 0; seed < 600; seed++) {
@@ -262,7 +263,8 @@ public final class CallEdgesTest {
     }
 
     private static void bodiesOfKindsAbove() {
-        due.of(T, "glows(..) is the BODY of its KIND, or of the next KIND above that has one; super.glows(..) that from the KIND above the BODY's on.");
+        due.of(T, "glows(..) is the BODY of its KIND, or of the next KIND above that has one; super.glows(..) that from the KIND "
+            + "above the BODY's on.");
         int[][][] began = {
             {{10}, {11, 10}, {12}, {13, 11, 10, 12}},
             {{20, 10}, {11, 20, 10}, {12}, {13, 11, 20, 10, 12}},
@@ -285,7 +287,8 @@ public final class CallEdgesTest {
     }
 
     private static void traceIsShort() {
-        due.of(T, "THE TRACE: the numbers of BODIES of the latest voice(), as they began (what stands left is worked out first), the first 40.");
+        due.of(T, "THE TRACE: the numbers of BODIES of the latest voice(), as they began (what stands left is worked out first), "
+            + "the first 40.");
         int[][] howMany = {{1, 2, 1, 4}, {2, 3, 1, 5}, {1, 4, 1, 6}, {1, 2, 2, 5}, {2, 3, 1, 8}, {1, 5, 1, 7}, {1, 2, 3, 9}};
         for (int kind = 0; kind < 7; kind++) {
             for (int act = 0; act < 4; act++) {
@@ -396,7 +399,8 @@ public final class CallEdgesTest {
     }
 
     private static void moveAsTheyAllWere() {
-        due.of(35, "n numbers of a SHEET, from number i on, come to another one (or the same), from its number j on, as they all were: n.");
+        due.of(35, "n numbers of a SHEET, from number i on, come to another one (or the same), from its number j on, as they all "
+            + "were: n.");
         int[][] runs = {{0, 0, 40}, {0, 1, 39}, {1, 0, 39}, {0, 39, 1}, {39, 0, 1}, {5, 5, 35}, {0, 20, 20}, {20, 0, 20}, {3, 7, 10},
             {7, 3, 10}, {40, 40, 0}, {0, 0, 0}};
         for (int[] r : runs) {
@@ -564,11 +568,9 @@ public final class CallEdgesTest {
         }
         Due.text(x, 0, "77");
         Due.text(x, 1, "777");
-        while (x.feed('1', 1) < 50) {
-            continue;
-        }
-        while (x.tell(1) < 20) {
-            continue;
+        Due.tape(x, "1".repeat(50));
+        for (int i = 0; i < 20; i++) {
+            x.tell(1);
         }
         for (int door = 0; door < 12; door++) {
             x.door(door, 0);
@@ -624,7 +626,8 @@ public final class CallEdgesTest {
     }
 
     private static void checkTheFirst() {
-        due.of(41, "The numbers that wait (none do then) are HEAT of all cells behind 1, 2, .. HOURS: 0; else 1 and the place (from 0) of the first that isn't so.");
+        due.of(41, "The numbers that wait (none do then) are HEAT of all cells behind 1, 2, .. HOURS: 0; else 1 and the place "
+            + "(from 0) of the first that isn't so.");
         due.is(new OvenRings(), 0, "check");
         for (int n = 1; n <= 20; n++) {
             for (int wrong = 0; wrong <= n; wrong++) {
@@ -667,7 +670,8 @@ public final class CallEdgesTest {
     }
 
     private static void countAtMost() {
-        due.of(42, "0 HOUSES, 1 HOUR, 2 FED, 3 WANTS, 4 BURNT, 5 HEAT of all cells, 6 WARM of all together, 7 bytes of THE TAPE, 8 numbers that wait, 9 BODIES in THE TRACE, 10 z (any number). BEYOND.");
+        due.of(42, "0 HOUSES, 1 HOUR, 2 FED, 3 WANTS, 4 BURNT, 5 HEAT of all cells, 6 WARM of all together, 7 bytes of THE TAPE, "
+            + "8 numbers that wait, 9 BODIES in THE TRACE, 10 z (any number). BEYOND.");
         OvenRings x = new OvenRings();
         fillAll(x);
         x.fire(0, 99);

@@ -1,5 +1,3 @@
-import java.lang.reflect.Method;
-import java.lang.reflect.Modifier;
 import java.util.ArrayList;
 import java.util.HashMap;
 import java.util.List;
@@ -11,7 +9,6 @@ public final class ModelTest {
     private static final int CALLS = 512;
     private static final String[] NAMES = {"fhw", "drh"};
     private static final Due due = new Due("ModelTest");
-    private static final Map<String, Method> methods = new HashMap<>();
     private static final Map<String, Integer> answered = new HashMap<>();
 
     private long drawn = 88172645463325252L;
@@ -20,17 +17,12 @@ public final class ModelTest {
     private int calls;
     private final List<String> told = new ArrayList<>();
 
-    public static void main(String[] args) throws ReflectiveOperationException {
-        for (Method m : OvenRings.class.getDeclaredMethods()) {
-            if (Modifier.isPublic(m.getModifiers())) {
-                methods.put(m.getName(), m);
-            }
-        }
+    public static void main(String[] args) {
         ModelTest test = new ModelTest();
         for (int i = 0; i < OBJECTS && test.runs(i); i++) {
             continue;
         }
-        for (String name : methods.keySet()) {
+        for (String name : Call.names()) {
             due.is(name + " was answered without an ERROR often", answered.getOrDefault(name, 0) > 30 ? 1 : 0, 1);
         }
         due.ends();
@@ -44,7 +36,7 @@ public final class ModelTest {
         return (int) Math.floorMod(drawn >>> 16, (long) n);
     }
 
-    private boolean runs(int object) throws ReflectiveOperationException {
+    private boolean runs(int object) {
         x = new OvenRings();
         model = new Model();
         calls = 0;
@@ -64,7 +56,7 @@ public final class ModelTest {
         return alike;
     }
 
-    private boolean step() throws ReflectiveOperationException {
+    private boolean step() {
         switch (draw(14)) {
             case 0:
                 return writes();
@@ -84,9 +76,8 @@ public final class ModelTest {
     }
 
     /** One call of any name, mostly with arguments that may be, sometimes with ones that may not. */
-    private boolean one() throws ReflectiveOperationException {
-        Object[] all = methods.keySet().stream().sorted().toArray();
-        String name = (String) all[draw(all.length)];
+    private boolean one() {
+        String name = Call.names()[draw(Call.names().length)];
         if (name.equals("hours") && draw(3) > 0) {
             return asks("hours", 1 + draw(3));
         }
@@ -147,7 +138,7 @@ public final class ModelTest {
         }
     }
 
-    private boolean looks() throws ReflectiveOperationException {
+    private boolean looks() {
         boolean alike = asks("count", draw(11)) && asks("doorsNow") && asks("ofCell", draw(16), draw(3));
         if (alike && !model.houses.isEmpty()) {
             alike = asks("ofHouse", draw(model.houses.size()), draw(8));
@@ -155,7 +146,7 @@ public final class ModelTest {
         return alike;
     }
 
-    private boolean writes() throws ReflectiveOperationException {
+    private boolean writes() {
         int use = draw(2);
         StringBuilder s = new StringBuilder();
         writesText(s, use, 0);
@@ -214,7 +205,7 @@ public final class ModelTest {
         }
     }
 
-    private boolean fillsSheetForWhich() throws ReflectiveOperationException {
+    private boolean fillsSheetForWhich() {
         int sheet = draw(4);
         int[] heats = model.heatsWithChanged(draw(12));
         boolean alike = draw(4) > 0 ? asks("sheet", sheet, 16, 16) : asks("sheet", sheet, 8 + 24 * draw(2), 16);
@@ -224,7 +215,7 @@ public final class ModelTest {
         return alike && asks("which", sheet, 0) && asks("which", sheet, 1);
     }
 
-    private boolean tellsAhead() throws ReflectiveOperationException {
+    private boolean tellsAhead() {
         boolean alike = draw(3) == 0 || asks("check");
         for (int v : model.heatsAhead(1 + draw(6))) {
             alike = alike && asks("tell", draw(12) == 0 ? v + 1 : v);
@@ -232,25 +223,17 @@ public final class ModelTest {
         return alike && (draw(3) == 0 || asks("check"));
     }
 
-    private boolean asks(String name, long... a) throws ReflectiveOperationException {
+    private boolean asks(String name, long... a) {
         if (calls >= CALLS) {
             return true;
         }
         calls++;
-        Method m = methods.get(name);
-        Object[] given = new Object[a.length];
-        long[] same = a.clone();
-        StringBuilder call = new StringBuilder(name).append('(');
-        for (int i = 0; i < a.length; i++) {
-            boolean isLong = m.getParameterTypes()[i] == long.class;
-            same[i] = isLong ? a[i] : (int) a[i];
-            given[i] = isLong ? (Object) same[i] : (Object) (int) same[i];
-            call.append(i > 0 ? ", " : "").append(same[i]);
-        }
-        int want = model.call(name, same);
-        int got = (Integer) m.invoke(x, given);
-        told.add(call.append(") ").append(got).toString());
-        due.is(call.toString(), got, want);
+        long[] taken = Call.taken(name, a);
+        String call = Call.text(name, taken);
+        int want = model.call(name, taken);
+        int got = Call.of(x, name, taken);
+        told.add(call + " " + got);
+        due.is(call, got, want);
         if (want > Due.LOW) {
             answered.merge(name, 1, Integer::sum);
         }

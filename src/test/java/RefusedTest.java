@@ -29,7 +29,8 @@ public final class RefusedTest {
     }
 
     private static void numbersOfErrors() {
-        due.of(Sentences.TERMS, "ERRORS are answers below -1000000000: LOW is -1000000000; LOW - 1 BEYOND, LOW - 2 NONE, LOW - 3 STATE, LOW - 4 FULL, LOW - 5 KIND.");
+        due.of(Sentences.TERMS, "ERRORS are answers below -1000000000: LOW is -1000000000; LOW - 1 BEYOND, LOW - 2 NONE, LOW - 3 "
+            + "STATE, LOW - 4 FULL, LOW - 5 KIND.");
         OvenRings x = Towns.withHouses(8);
         due.is("BEYOND", x.heat(-1, 0), -1000000001);
         due.is("NONE", x.restore(), -1000000002);

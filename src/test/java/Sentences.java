@@ -1,8 +1,6 @@
 import java.io.IOException;
 import java.nio.file.Files;
 import java.nio.file.Path;
-import java.util.Set;
-import java.util.TreeSet;
 
 /** Tests by sentences of the document: each must stand there as it is told, and be asked for. */
 final class Sentences {
@@ -13,7 +11,6 @@ final class Sentences {
 
     private final Due due;
     private final String[] parts = new String[PROMISES + 1];
-    private final Set<Integer> quoted = new TreeSet<>();
     private String sentence = "";
     private int asked = 1;
 
@@ -34,7 +31,6 @@ final class Sentences {
     void of(int promise, String quote) {
         isAsked();
         due.is("the document says: " + quote, parts[promise].contains(plain(quote)) ? 1 : 0, 1);
-        quoted.add(promise);
         sentence = quote;
         asked = 0;
     }
@@ -59,10 +55,6 @@ final class Sentences {
         asked++;
         String wrong = twins.differs(answer, name, a);
         due.is("\"" + sentence + "\": " + Call.text(name, a) + ", wrong is " + wrong, twins.differences(), 0);
-    }
-
-    boolean isQuoted(int promise) {
-        return quoted.contains(promise);
     }
 
     void ends() {

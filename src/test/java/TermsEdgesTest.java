@@ -89,7 +89,8 @@ public final class TermsEdgesTest {
     }
 
     private static void doors() {
-        due.of(T, "A DOOR (1) or a brick (0; at first a DOOR) is between cells c and c and 4 of the next RING (DOOR c, c 0 to 11).");
+        due.of(T, "A DOOR (1) or a brick (0; at first a DOOR) is between cells c and c and 4 of the next RING (DOOR c, c 0 to "
+            + "11).");
         due.is(new OvenRings(), 4095, "doorsNow");
         for (int door = 0; door < 12; door++) {
             OvenRings x = walled(0);
@@ -186,7 +187,8 @@ public final class TermsEdgesTest {
     }
 
     private static void kinds() {
-        due.of(T, "of KINDS: 0 HOUSE; 1 RICH, 2 THIEF, 3 WIDOW under HOUSE; 4 BAKER under RICH; 5 CHURCH under THIEF; 6 LODGER under WIDOW;");
+        due.of(T, "of KINDS: 0 HOUSE; 1 RICH, 2 THIEF, 3 WIDOW under HOUSE; 4 BAKER under RICH; 5 CHURCH under THIEF; 6 LODGER "
+            + "under WIDOW;");
         int[] sets = {1, 1 + 2, 1 + 4, 1 + 8, 1 + 2 + 16, 1 + 4 + 32, 1 + 8 + 64};
         for (int kind = 0; kind < 7; kind++) {
             OvenRings x = new OvenRings();
@@ -244,7 +246,8 @@ public final class TermsEdgesTest {
     }
 
     private static void ofAHouse() {
-        due.of(8, "Of a HOUSE: 0 KIND, 1 m, 2 CELL, 3 WARM, 4 LEAST now, 5 MOST, 6 TAKES now, 7 whether it would be CONTENT by HEAT as it is.");
+        due.of(8, "Of a HOUSE: 0 KIND, 1 m, 2 CELL, 3 WARM, 4 LEAST now, 5 MOST, 6 TAKES now, 7 whether it would be CONTENT by "
+            + "HEAT as it is.");
         OvenRings x = walled(4);
         x.house(59, 0);
         x.house(69, 15);
@@ -342,7 +345,8 @@ public final class TermsEdgesTest {
     }
 
     private static void takes() {
-        due.of(T, "HOUSE: 2. RICH: three times that. THIEF: 1. BAKER: 0. CHURCH: as THIEF, and the rest of HOUR by 5. (Others as the KIND above.)");
+        due.of(T, "HOUSE: 2. RICH: three times that. THIEF: 1. BAKER: 0. CHURCH: as THIEF, and the rest of HOUR by 5. (Others as "
+            + "the KIND above.)");
         int[] takes = {2, 6, 1, 2, 0, 2, 2};
         for (int kind = 0; kind < 7; kind++) {
             OvenRings x = walled(1);
@@ -436,7 +440,8 @@ public final class TermsEdgesTest {
     }
 
     private static void fireWantsByText() {
-        due.of(T, "USES: 0 WANTED, NAMES f FED, h the rest of HOUR by 24, w the rest of WANTS by 100; held within 0 to 99; without a TEXT 20.");
+        due.of(T, "USES: 0 WANTED, NAMES f FED, h the rest of HOUR by 24, w the rest of WANTS by 100; held within 0 to 99; "
+            + "without a TEXT 20.");
         wantedGives("f", 0, 0, 7);
         wantedGives("f+1", 0, 0, 8);
         wantedGives("h", 0, 0, 0);
@@ -469,7 +474,8 @@ public final class TermsEdgesTest {
     }
 
     private static void allAtOnce() {
-        due.of(T, "(2) all at once, by HEAT as it is then: through each DOOR goes from the one cell to the other what the other TEXT gives of how much HEAT of the one of the lesser RING is more");
+        due.of(T, "(2) all at once, by HEAT as it is then: through each DOOR goes from the one cell to the other what the other "
+            + "TEXT gives of how much HEAT of the one of the lesser RING is more");
         OvenRings x = new OvenRings();
         x.fire(0, 0);
         x.heat(1, 999);

@@ -268,14 +268,17 @@ public final class TextEdgesTest {
         due.of(T, "| & < = > ! are 1 or 0, what is not 0 being true; all is worked out.");
         int[] all = {MIN, -2, -1, 0, 1, 2, 4, MAX};
         for (int a : all) {
-            gives("!f", a, 0, 0, a == 0 ? 1 : 0);
-            gives("!!f", a, 0, 0, a == 0 ? 0 : 1);
+            gives("5+!f", a, 0, 0, a == 0 ? 6 : 5);
+            gives("5+!!f", a, 0, 0, a == 0 ? 5 : 6);
             for (int b : all) {
+                // one more by 5, as what is below 0 would be held
+                gives("5+(f|h)", a, b, 0, a != 0 || b != 0 ? 6 : 5);
+                gives("5+(f&h)", a, b, 0, a != 0 && b != 0 ? 6 : 5);
+                gives("5+(f<h)", a, b, 0, a < b ? 6 : 5);
+                gives("5+(f=h)", a, b, 0, a == b ? 6 : 5);
+                gives("5+(f>h)", a, b, 0, a > b ? 6 : 5);
                 gives("f|h", a, b, 0, a != 0 || b != 0 ? 1 : 0);
                 gives("f&h", a, b, 0, a != 0 && b != 0 ? 1 : 0);
-                gives("f<h", a, b, 0, a < b ? 1 : 0);
-                gives("f=h", a, b, 0, a == b ? 1 : 0);
-                gives("f>h", a, b, 0, a > b ? 1 : 0);
             }
         }
         gives("1|1/0", 0, 0, 0, 1);

@@ -172,7 +172,8 @@ public final class ThoughtEdgesTest {
     }
 
     private static void feed() {
-        due.of(T, "FEED for a set of HOUSES by n (1 to 30): the least FED (0 to 99) with which all of them are CONTENT in HOUR n from now on (as (3) goes by).");
+        due.of(T, "FEED for a set of HOUSES by n (1 to 30): the least FED (0 to 99) with which all of them are CONTENT in HOUR n "
+            + "from now on (as (3) goes by).");
         int[][] heatAndFed = {{0, 42}, {1, 41}, {41, 1}, {42, 0}, {43, 0}, {202, 0}, {203, Due.NONE}, {999, Due.NONE}};
         for (int[] h : heatAndFed) {
             OvenRings x = walled();
@@ -241,7 +242,8 @@ public final class ThoughtEdgesTest {
     }
 
     private static void open() {
-        due.of(T, "OPEN for a HOUSE by n (0 to 20): the DOOR or brick that, changed now (the one to the other), makes WARM of it most behind n HOURS;");
+        due.of(T, "OPEN for a HOUSE by n (0 to 20): the DOOR or brick that, changed now (the one to the other), makes WARM of it "
+            + "most behind n HOURS;");
         for (int door = 0; door < 12; door++) {
             OvenRings x = walled();
             x.house(20, door + 4);
@@ -302,7 +304,8 @@ public final class ThoughtEdgesTest {
     }
 
     private static void doorsTheFewest() {
-        due.of(T, "DOORS for a HOUSE, v (0 to 999), n (0 to 20): the fewest DOORS (2 at most) that, changed now, make HEAT of its CELL v or more behind n HOURS;");
+        due.of(T, "DOORS for a HOUSE, v (0 to 999), n (0 to 20): the fewest DOORS (2 at most) that, changed now, make HEAT of its "
+            + "CELL v or more behind n HOURS;");
         OvenRings x = thief(900, 100, 100);
         // behind two HOURS: 52 as it is, 63 by 4, 98 by 8, 152 by 0 and 4
         int[][] vAndSet = {{0, 0}, {52, 0}, {53, 16}, {63, 16}, {64, 256}, {98, 256}, {99, 17}, {152, 17}, {153, Due.NONE}, {999, Due.NONE}};
@@ -379,7 +382,8 @@ public final class ThoughtEdgesTest {
     }
 
     private static void which() {
-        due.of(T, "WHICH: a SHEET tells HEAT of cells 0, 1, .. to 15 behind one HOUR: which DOOR or brick, changed now (the others as they are), makes it so: as a set; how many.");
+        due.of(T, "WHICH: a SHEET tells HEAT of cells 0, 1, .. to 15 behind one HOUR: which DOOR or brick, changed now (the "
+            + "others as they are), makes it so: as a set; how many.");
         for (int door = 0; door < 12; door++) {
             OvenRings x = unlike();
             OvenRings changed = unlike();
@@ -424,7 +428,8 @@ public final class ThoughtEdgesTest {
     }
 
     private static void move() {
-        due.of(T, "MOVE for a HOUSE by n (0 to 30): the CELL in which it should be now so that WARM of it is most behind n HOURS; of several the least; WARM then.");
+        due.of(T, "MOVE for a HOUSE by n (0 to 30): the CELL in which it should be now so that WARM of it is most behind n HOURS; "
+            + "of several the least; WARM then.");
         for (int cell = 0; cell < 16; cell++) {
             OvenRings x = walled();
             x.house(20, 7);
@@ -452,7 +457,8 @@ public final class ThoughtEdgesTest {
     }
 
     private static void vote() {
-        due.of(T, "VOTE for a DOOR by n (0 to 20): HOUSES of which WARM would be more behind n HOURS, were it changed now, less those of which it would be less.");
+        due.of(T, "VOTE for a DOOR by n (0 to 20): HOUSES of which WARM would be more behind n HOURS, were it changed now, less "
+            + "those of which it would be less.");
         for (int houses = 0; houses <= 8; houses++) {
             for (int door = 0; door < 12; door++) {
                 OvenRings x = walled();
@@ -524,7 +530,8 @@ public final class ThoughtEdgesTest {
     }
 
     private static void keeps() {
-        due.of(T, "KEEPS of a cell: behind how many HOURS (0 to 60) with FED 0 from now on HEAT of it is less than half (cut) of what it is now first.");
+        due.of(T, "KEEPS of a cell: behind how many HOURS (0 to 60) with FED 0 from now on HEAT of it is less than half (cut) of "
+            + "what it is now first.");
         int[][] heatAndHours = {{0, Due.NONE}, {1, Due.NONE}, {2, 2}, {3, 3}, {4, 3}, {5, 4}, {116, 59}, {117, 60}, {118, 60},
             {119, Due.NONE}, {120, Due.NONE}, {999, Due.NONE}};
         for (int cell = 0; cell < 12; cell++) {
@@ -596,7 +603,8 @@ public final class ThoughtEdgesTest {
     }
 
     private static void odds() {
-        due.of(T, "ODDS: that a HOUSE is CONTENT in HOUR n (1 to 60) from now on, FED being 0, 10, 20, .. 90, each just as likely: a fraction in lowest terms (0 is 0 by 1).");
+        due.of(T, "ODDS: that a HOUSE is CONTENT in HOUR n (1 to 60) from now on, FED being 0, 10, 20, .. 90, each just as "
+            + "likely: a fraction in lowest terms (0 is 0 by 1).");
         int[][] heatAboveBelow = {{42, 1, 1}, {112, 1, 1}, {41, 9, 10}, {32, 9, 10}, {113, 9, 10}, {122, 9, 10}, {31, 4, 5},
             {22, 4, 5}, {132, 4, 5}, {12, 7, 10}, {142, 7, 10}, {2, 3, 5}, {152, 3, 5}, {1, 1, 2}, {0, 1, 2}, {162, 1, 2}, {172, 2, 5},
             {182, 3, 10}, {192, 1, 5}, {193, 1, 10}, {202, 1, 10}, {203, 0, 1}, {999, 0, 1}};

@@ -9,26 +9,28 @@ final class Towns {
      */
     static OvenRings full() {
         OvenRings x = Due.town();
-        Due.text(x, 0, "f+h%5");
-        Due.text(x, 1, "d/4+r");
-        x.door(3, 0);
+        errors(x);
+        ahead(x);
         x.tell(4);
         Due.tape(x, "h-");
         x.image();
+        x.check();
         changed(x);
         sheets(x);
-        errors(x);
-        x.check();
-        OvenRings ahead = Due.town();
-        Due.text(ahead, 0, "f+h%5");
-        Due.text(ahead, 1, "d/4+r");
-        ahead.door(3, 0);
-        changed(ahead);
-        x.tell(ahead.hours(1));
-        x.tell(ahead.hours(1));
-        x.tell(ahead.hours(1));
+        OvenRings later = Due.town();
+        ahead(later);
+        changed(later);
+        for (int i = 0; i < 3; i++) {
+            x.tell(later.hours(1));
+        }
         Due.tape(x, "w*2");
         return x;
+    }
+
+    private static void ahead(OvenRings x) {
+        Due.text(x, 0, "f+h%5");
+        Due.text(x, 1, "d/4+r");
+        x.door(3, 0);
     }
 
     private static void changed(OvenRings x) {
@@ -47,26 +49,25 @@ final class Towns {
     }
 
     private static void sheets(OvenRings x) {
-        x.sheet(0, 8, 20);
-        x.sheet(1, 16, 16);
-        x.sheet(2, 32, 40);
+        int[] lengths = {20, 16, 40};
         for (int sheet = 0; sheet < 3; sheet++) {
+            int last = lengths[sheet] - 1;
+            x.sheet(sheet, 8 << sheet, last + 1);
             x.put(sheet, 0, 60 + sheet);
             x.put(sheet, 1, 70);
             x.put(sheet, 15, 90);
-            x.put(sheet, 16, 100);
-            x.put(sheet, 39, 110);
+            x.put(sheet, last / 3 * 2, 100);
+            x.put(sheet, last, 110);
         }
     }
 
+    /** These come first, as an ERROR that changes something would hide it from the next ones. */
     private static void errors(OvenRings x) {
         x.heat(-1, 0);
         x.trace(-1);
         x.sheet(0, 8, -1);
         x.as(0, 1);
-        while (x.feed('1', 1) > 0) {
-            continue;
-        }
+        Due.tape(x, "1".repeat(51));
         x.text(0);
     }
 

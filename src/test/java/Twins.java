@@ -49,21 +49,28 @@ final class Twins {
         }
     }
 
-    /** All that a town can be asked; it is used up by this. */
+    /**
+     * All that a town can be asked; it is used up by this. What may answer an ERROR comes last, as it
+     * would hide what an ERROR ahead has changed.
+     */
     private static List<Integer> looks(OvenRings x) {
         List<Integer> all = new ArrayList<>();
         state(x, all);
-        for (int i = 0; i <= 9; i++) {
+        for (int i = 0; i < x.count(9); i++) {
             all.add(x.trace(i));
         }
         waitsAndTape(x, all);
-        for (int sheet = 0; sheet < 4; sheet++) {
-            sheet(x, sheet, all);
-        }
         all.add(x.restore());
         state(x, all);
         waitsAndTape(x, all);
         all.add(x.image());
+        for (int sheet = 0; sheet < 4; sheet++) {
+            numbers(x, sheet, all);
+            bits(x, sheet, all);
+        }
+        for (int sheet = 0; sheet < 4; sheet++) {
+            length(x, sheet, all);
+        }
         return all;
     }
 
@@ -93,17 +100,15 @@ final class Twins {
         all.add(x.law(0, 40, 2, 19));
     }
 
-    /** How long a SHEET is, its numbers, and of how many bits they are, seen by what it makes of 65541. */
-    private static void sheet(OvenRings x, int sheet, List<Integer> all) {
-        int n = lengthOf(x, sheet);
-        all.add(n);
-        for (int from = 0; from < n; from += 16) {
-            x.move(sheet, from, sheet, 0, Math.min(16, n - from));
-            all.add(x.heats(sheet));
-            for (int cell = 0; cell < 16; cell++) {
-                all.add(x.ofCell(cell, 0));
-            }
+    private static void numbers(OvenRings x, int sheet, List<Integer> all) {
+        all.add(x.heats(sheet));
+        for (int cell = 0; cell < 16; cell++) {
+            all.add(x.ofCell(cell, 0));
         }
+    }
+
+    /** Of how many bits a SHEET is, seen by what it makes of numbers that are longer. */
+    private static void bits(OvenRings x, int sheet, List<Integer> all) {
         all.add(x.put(sheet, 0, 65536 + 5));
         all.add(x.heats(sheet));
         all.add(x.put(sheet, 0, 256 + 5));
@@ -111,13 +116,18 @@ final class Twins {
         all.add(x.ofCell(0, 0));
     }
 
-    private static int lengthOf(OvenRings x, int sheet) {
+    /** How long a SHEET is, and its numbers for which there is no cell. */
+    private static void length(OvenRings x, int sheet, List<Integer> all) {
         int n = 0;
         for (int step = 32; step > 0; step /= 2) {
             if (x.move(sheet, 0, sheet, 0, n + step) == n + step) {
                 n += step;
             }
         }
-        return n;
+        all.add(n);
+        for (int from = 16; from < n; from += 16) {
+            x.move(sheet, from, sheet, 0, Math.min(16, n - from));
+            numbers(x, sheet, all);
+        }
     }
 }
