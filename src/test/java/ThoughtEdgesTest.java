@@ -20,9 +20,11 @@ public final class ThoughtEdgesTest {
         doorsTheFewest();
         doorsOfSeveral();
         doorsAtTheEnds();
+        doorsOfAllSides();
         which();
         whichOfOneNumber();
         move();
+        moveOfWhatIsCold();
         vote();
         cold();
         keeps();
@@ -362,6 +364,33 @@ public final class ThoughtEdgesTest {
         due.is(x, Due.NONE, "doors", 0, 1, 1);
     }
 
+    /** The fewest by each DOOR, that lets HEAT in or keeps it, and by two of each SIDE. */
+    private static void doorsOfAllSides() {
+        due.of(T, "make HEAT of its CELL v or more behind n HOURS; of several sets the least.");
+        for (int door = 0; door < 12; door++) {
+            OvenRings x = walled();
+            x.house(40, door + 4);
+            x.heat(door, 300);
+            int most = door < 8 ? 100 : 75;
+            due.is(x, 1 << door, "doors", 0, most, 1);
+            due.is(x, Due.NONE, "doors", 0, most + 1, 1);
+            x.door(door, 1);
+            due.is(x, 0, "doors", 0, most, 1);
+            x.change(0, 0, door);
+            due.is(x, 0, "doors", 0, 200, 1);
+            due.is(x, 1 << door, "doors", 0, 201, 1);
+            due.is(x, 1 << door, "doors", 0, 300, 1);
+            due.is(x, Due.NONE, "doors", 0, 301, 1);
+        }
+        for (int side = 0; side < 4; side++) {
+            OvenRings x = walled();
+            x.house(40, 8 + side);
+            x.heat(side, 900);
+            due.is(x, 17 << side, "doors", 0, 100, 2);
+            due.is(x, Due.NONE, "doors", 0, 101, 2);
+        }
+    }
+
     private static void fill(OvenRings x, int sheet, OvenRings from) {
         x.sheet(sheet, 16, 16);
         for (int cell = 0; cell < 16; cell++) {
@@ -453,6 +482,24 @@ public final class ThoughtEdgesTest {
             due.is(x, 9999, "settle", 0, 30, 1);
             due.is(x, 0, "settle", 0, 30, 0);
             due.is(x, 7, "ofHouse", 0, 2);
+        }
+    }
+
+    private static void moveOfWhatIsCold() {
+        due.of(T, "of several the least; WARM then.");
+        OvenRings x = walled();
+        x.house(20, 7);
+        int[] hours = {0, 1, 30};
+        for (int n : hours) {
+            due.is(x, 0, "settle", 0, n, 0);
+            due.is(x, 0, "settle", 0, n, 1);
+        }
+        for (int cell = 15; cell >= 0; cell--) {
+            x.heat(cell, 21);
+            due.is(x, cell, "settle", 0, 1, 0);
+            due.is(x, 1, "settle", 0, 1, 1);
+            due.is(x, cell, "settle", 0, 30, 0);
+            due.is(x, 1, "settle", 0, 30, 1);
         }
     }
 
